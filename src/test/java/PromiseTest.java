@@ -554,7 +554,7 @@ public final class PromiseTest {
             is(least[w], x.count(counted[w]));
             is(least[w], x.tell(w, most[w]));
             is(most[w], x.count(counted[w]));
-            bad(ILLEGAL, () -> x.tell(w, least[w] - 1 == 9 && w == 4 ? 9 : least[w] - 1));
+            bad(ILLEGAL, () -> x.tell(w, least[w] - 1));
             bad(ILLEGAL, () -> x.tell(w, most[w] + 1));
             bad(ILLEGAL, () -> x.tell(w, Integer.MIN_VALUE));
             is(most[w], x.count(counted[w]));
@@ -702,6 +702,15 @@ public final class PromiseTest {
         is(NONE, y.needed(1, 2));
         y.ask(1);
         is(0, y.needed(1, 2));
+        // Halved at 10 alone: 5 then, and 15 with the 20th; one ask less ahead, or one more, and 20 are too few.
+        int[] due = {NONE, 20, NONE};
+        for (int k = 0; k < 3; k++) {
+            AdmissionDesk z = open("50-" + (60 + k));
+            z.tell(3, 22);
+            law(z, "cand = 15");
+            is(due[k], z.needed(1, 2));
+            is(11 + k, z.count(4));
+        }
     }
 
     private static void twin() {
@@ -715,6 +724,10 @@ public final class PromiseTest {
         is(15, x.twin(1));
         is(651, x.twin(99999));
         x.tell(5, 16);
+        is(0, x.twin(6));
+        // Key 1000 would be nearer, but is none of 0 to 999.
+        is(2, x.meets(2909, 1000));
+        is(2, x.twin(2909));
         is(14, x.twin(7));
         is(1, x.twin(99999));
         bad(ILLEGAL, () -> x.twin(-1));
@@ -1176,6 +1189,8 @@ public final class PromiseTest {
         lawFault(5, "cand vict");
         lawFault(0, "can");
         lawFault(0, "cands > 1");
+        lawFault(0, "candz > 1");
+        lawFault(0, "acand > 1");
         lawFault(0, "or");
         lawFault(4, "not1");
         lawFault(0, "notcand > 1");
