@@ -20,9 +20,8 @@ public final class AdmissionDesk {
 
     private final Row tape = new Row(TEXT_BYTES);
     private final Row written = new Row(HISTORY_ASKS * 6);
-    private final Tokens tokens = new Tokens();
-    private final LawReader lawReader = new LawReader(tokens);
-    private final TraceReader traceReader = new TraceReader(tokens);
+    private final LawReader lawReader = new LawReader();
+    private final TraceReader traceReader = new TraceReader();
     private final Lookback lookback = new Lookback();
     private final Desk desk = new Desk();
     private final Desk kept = new Desk();
@@ -1322,12 +1321,8 @@ public final class AdmissionDesk {
         private static final int BRACKETS_MOST = 8;
         private static final int DIGITS_MOST = 4;
 
-        private final Tokens tokens;
+        private final Tokens tokens = new Tokens();
         private final Law draft = new Law();
-
-        LawReader(Tokens tokens) {
-            this.tokens = tokens;
-        }
 
         int read(Row tape) {
             tokens.cutUp(tape, DIGITS_MOST);
@@ -1419,12 +1414,8 @@ public final class AdmissionDesk {
         private static final int DIGITS_MOST = 5;
         private static final int TIMES_MOST = 100;
 
-        private final Tokens tokens;
+        private final Tokens tokens = new Tokens();
         private final Row keys = new Row(TRACE_ASKS);
-
-        TraceReader(Tokens tokens) {
-            this.tokens = tokens;
-        }
 
         int read(Row tape) {
             tokens.cutUp(tape, DIGITS_MOST);
