@@ -1,14 +1,5 @@
-import java.util.NoSuchElementException;
-import java.util.function.IntSupplier;
-
 /** For each promise of the document: what it answers, its edges, its wrong inputs. */
-public final class PromiseTest {
-    private static final int NONE = -1;
-    private static final Class<?> ILLEGAL = IllegalArgumentException.class;
-    private static final Class<?> MISSING = NoSuchElementException.class;
-    private static int failures;
-    private static boolean isGood;
-
+public final class PromiseTest extends Cases {
     public static void main(String[] args) {
         Runnable[] promises = {
             PromiseTest::aNewObject, PromiseTest::feed, PromiseTest::end, PromiseTest::law, PromiseTest::free,
@@ -16,7 +7,7 @@ public final class PromiseTest {
             PromiseTest::at, PromiseTest::latest, PromiseTest::out, PromiseTest::estimate, PromiseTest::place,
             PromiseTest::counter, PromiseTest::meets, PromiseTest::noted, PromiseTest::halve, PromiseTest::wins,
             PromiseTest::tell, PromiseTest::doorman, PromiseTest::again, PromiseTest::best, PromiseTest::plain,
-            PromiseTest::ideal, PromiseTest::enough, PromiseTest::needed, PromiseTest::twin, PromiseTest::history,
+            PromiseTest::ideal, PromiseTest::enough, PromiseTest::needed, PromiseTest::twin, PromiseTest::historyRow,
             PromiseTest::past, PromiseTest::asked, PromiseTest::hot, PromiseTest::heat, PromiseTest::write,
             PromiseTest::octet, PromiseTest::keep, PromiseTest::back, PromiseTest::count};
         for (int k = 0; k < promises.length; k++) {
@@ -30,87 +21,7 @@ public final class PromiseTest {
         told("terms: faults of a law", PromiseTest::lawFaults);
         told("terms: faults of a trace", PromiseTest::traceFaults);
         told("terms: a call that throws changes nothing", PromiseTest::throwsLeaveAlone);
-        System.exit(failures == 0 ? 0 : 1);
-    }
-
-    private static void told(String name, Runnable test) {
-        isGood = true;
-        try {
-            test.run();
-        } catch (RuntimeException e) {
-            isGood = false;
-            System.out.println(name + " threw " + e);
-        }
-        failures += isGood ? 0 : 1;
-        System.out.println((isGood ? "ok " : "FAILED ") + name);
-    }
-
-    private static void is(int due, int got) {
-        if (got != due) {
-            isGood = false;
-            int line = StackWalker.getInstance().walk(frames -> frames
-                .filter(f -> !f.getMethodName().equals("is") && !f.getMethodName().equals("all"))
-                .findFirst().get().getLineNumber());
-            System.out.println("line " + line + ": due is " + due + ", answered " + got);
-        }
-    }
-
-    private static void is(boolean due, boolean got) {
-        is(due ? 1 : 0, got ? 1 : 0);
-    }
-
-    private static void bad(Class<?> due, IntSupplier call) {
-        Class<?> got = null;
-        try {
-            call.getAsInt();
-        } catch (RuntimeException e) {
-            got = e.getClass();
-        }
-        if (got != due) {
-            isGood = false;
-            int line = StackWalker.getInstance().walk(frames -> frames.skip(1).findFirst().get().getLineNumber());
-            System.out.println("line " + line + ": due is " + due + ", thrown was " + got);
-        }
-    }
-
-    private static void tape(AdmissionDesk x, String text) {
-        x.end(0);
-        for (int k = 0; k < text.length(); k += 20) {
-            int[] n = new int[5];
-            for (int i = 0; i < 20; i++) {
-                n[i / 4] = n[i / 4] << 8 | (k + i < text.length() ? text.charAt(k + i) : 0);
-            }
-            x.feed(n[0], n[1], n[2], n[3], n[4]);
-        }
-        x.end(text.length());
-    }
-
-    private static int trace(AdmissionDesk x, String text) {
-        tape(x, text);
-        return x.trace();
-    }
-
-    private static int law(AdmissionDesk x, String text) {
-        tape(x, text);
-        return x.law();
-    }
-
-    private static AdmissionDesk desk(String trace) {
-        AdmissionDesk x = new AdmissionDesk();
-        if (!trace.isEmpty()) {
-            trace(x, trace);
-        }
-        return x;
-    }
-
-    /** Without a doorman an estimate is as high as the counters are, which is easier to tell. */
-    private static AdmissionDesk open(String trace) {
-        AdmissionDesk x = new AdmissionDesk();
-        x.doorman(false);
-        if (!trace.isEmpty()) {
-            trace(x, trace);
-        }
-        return x;
+        finish();
     }
 
     private static void lawFault(int due, String text) {
@@ -127,20 +38,6 @@ public final class PromiseTest {
         bad(ILLEGAL, x::trace);
         is(due, x.fault());
         is(0, x.count(0));
-    }
-
-    private static void counts(AdmissionDesk x, int... due) {
-        for (int what = 0; what < due.length; what++) {
-            is(due[what], x.count(what));
-        }
-    }
-
-    private static void row(AdmissionDesk x, int part, int... keys) {
-        is(keys.length, x.part(part, 0));
-        for (int k = 0; k < keys.length; k++) {
-            is(keys[k], x.at(part, k));
-        }
-        is(NONE, x.at(part, keys.length));
     }
 
     private static void aNewObject() {
@@ -734,7 +631,7 @@ public final class PromiseTest {
         bad(ILLEGAL, () -> x.twin(100000));
     }
 
-    private static void history() {
+    private static void historyRow() {
         AdmissionDesk x = desk("1-5");
         is(1, x.history(0));
         is(5, x.history(4));
@@ -902,7 +799,7 @@ public final class PromiseTest {
 
     private static void back() {
         AdmissionDesk x = rich();
-        bad(IllegalStateException.class, x::back);
+        bad(STATE, x::back);
         same(x, rich());
         x.keep();
         for (int turn = 0; turn < 2; turn++) {
@@ -1296,8 +1193,8 @@ public final class PromiseTest {
             bad(ILLEGAL, () -> x.counter(key, 0));
             bad(ILLEGAL, () -> x.counter(0, key));
             bad(ILLEGAL, () -> x.meets(key, 1));
-            bad(ILLEGAL, () -> x.noted(key) ? 1 : 0);
-            bad(ILLEGAL, () -> x.wins(key, 1) ? 1 : 0);
+            bad(ILLEGAL, () -> x.noted(key));
+            bad(ILLEGAL, () -> x.wins(key, 1));
             bad(ILLEGAL, () -> x.again(key));
             bad(ILLEGAL, () -> x.plain(key));
             bad(ILLEGAL, () -> x.ideal(key));
@@ -1315,11 +1212,7 @@ public final class PromiseTest {
         tape(x, "cand > vict x");
         bad(ILLEGAL, x::law);
         is(false, x.end(1));
-        bad(IllegalStateException.class, x::back);
+        bad(STATE, x::back);
         same(x, rich());
-    }
-
-    private static void bad(Class<?> due, java.util.function.BooleanSupplier call) {
-        bad(due, (IntSupplier) () -> call.getAsBoolean() ? 1 : 0);
     }
 }
