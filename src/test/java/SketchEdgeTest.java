@@ -260,15 +260,35 @@ public final class SketchEdgeTest extends Cases {
             }
         });
         told("terms 1, THE DOORMAN: all 256 bits can be set", () -> {
-            AdmissionDesk x = new AdmissionDesk();
-            x.tell(3, 20000);
-            for (int k = 0; k < 8; k++) {
-                trace(x, 500 * k + "-" + (500 * k + 499));
-            }
+            AdmissionDesk x = full();
             is(256, x.count(14));
             is(true, x.noted(99999));
             is(true, x.noted(55555));
         });
+        told("terms 1, THE DOORMAN: all 256 bits are gone when HALVED, told anew, or WIDE is told", () -> {
+            AdmissionDesk x = full();
+            x.halve();
+            is(0, x.count(14));
+            x = full();
+            x.doorman(false);
+            is(0, x.count(14));
+            x.doorman(true);
+            is(0, x.count(14));
+            x = full();
+            x.tell(5, 16);
+            is(0, x.count(14));
+        });
+    }
+
+    /** A desk where each counter is at 15 and each bit is set. */
+    private static AdmissionDesk full() {
+        AdmissionDesk x = new AdmissionDesk();
+        x.tell(3, 20000);
+        x.tell(5, 16);
+        for (int from = 0; from < 24000; from += 500) {
+            trace(x, from + "-" + (from + 499));
+        }
+        return x;
     }
 
     private static void estimates() {
@@ -595,12 +615,7 @@ public final class SketchEdgeTest extends Cases {
             is(60, x.count(16));
         });
         told("promise 39, count: 15 and 16, all COUNTERS at 15 at WIDE 16", () -> {
-            AdmissionDesk x = open("");
-            x.tell(3, 20000);
-            x.tell(5, 16);
-            for (int from = 0; from < 20000; from += 500) {
-                trace(x, from + "-" + (from + 499));
-            }
+            AdmissionDesk x = full();
             is(1024, x.count(15));
             is(15360, x.count(16));
             is(15, x.counter(0, 0));
@@ -608,6 +623,28 @@ public final class SketchEdgeTest extends Cases {
             int before = x.count(4);
             x.ask(12345);
             is(before, x.count(4));
+        });
+        told("promise 38, back: each COUNTER and each bit, from the first to the last", () -> {
+            AdmissionDesk x = full();
+            x.keep();
+            x.tell(5, 1);
+            is(0, x.count(14) + x.count(16));
+            x.back();
+            is(256, x.count(14));
+            is(1024, x.count(15));
+            is(15360, x.count(16));
+            AdmissionDesk y = new AdmissionDesk();
+            y.keep();
+            trace(y, "0-499");
+            y.back();
+            is(0, y.count(14) + y.count(16));
+        });
+        told("promise 19, halve: each COUNTER, from the first to the last", () -> {
+            AdmissionDesk x = full();
+            x.halve();
+            is(1024 * 7, x.count(16));
+            x.tell(5, 16);
+            is(0, x.count(16));
         });
     }
 }
