@@ -4,6 +4,8 @@ import java.util.function.IntSupplier;
 /** Random runs of calls, each answer held against Model's. */
 public final class ModelTest {
     private static final int METHODS = 39;
+    // What later calls answer is free.
+    private static final int CALLS = 512;
 
     private final Random random;
     private final StringBuilder calls = new StringBuilder();
@@ -11,6 +13,7 @@ public final class ModelTest {
     private Model model = new Model();
     private int keys;
     private int wrong;
+    private int made;
 
     private ModelTest(long seed) {
         random = new Random(seed);
@@ -18,7 +21,7 @@ public final class ModelTest {
 
     public static void main(String[] args) {
         int failed = 0;
-        int runs = args.length > 0 ? Integer.parseInt(args[0]) : 300;
+        int runs = args.length > 0 ? Integer.parseInt(args[0]) : 2000;
         for (int kind = 0; kind < 4; kind++) {
             int bad = 0;
             for (int run = 0; run < runs; run++) {
@@ -43,7 +46,7 @@ public final class ModelTest {
             int room = 1 + random.nextInt(64);
             both("tell 0 " + room, () -> desk.tell(0, room), () -> model.tell(0, room));
         }
-        for (int n = 0; n < 500 && wrong == 0; n++) {
+        for (int n = 0; made < CALLS && wrong == 0; n++) {
             int roll = random.nextInt(100);
             if (kind == 1 && roll < 50) {
                 text("trace", goodTrace());
@@ -57,7 +60,12 @@ public final class ModelTest {
             } else {
                 anyCall(random.nextInt(METHODS));
             }
-            state();
+            if (n % 8 == 7) {
+                state();
+            } else {
+                int w = random.nextInt(22);
+                both("count " + w, () -> desk.count(w), () -> model.count(w));
+            }
         }
     }
 
@@ -86,6 +94,10 @@ public final class ModelTest {
     }
 
     private void both(String call, IntSupplier mine, IntSupplier due) {
+        made++;
+        if (made > CALLS) {
+            return;
+        }
         String got = outcome(mine);
         String want = outcome(due);
         calls.append(call).append(" = ").append(got).append('\n');
@@ -251,9 +263,9 @@ public final class ModelTest {
                 break;
             case 34:
                 both("write", desk::write, model::write);
-                for (int k = -1; k <= 600; k++) {
-                    int byteAt = k;
-                    both("octet " + k, () -> desk.octet(byteAt), () -> model.octet(byteAt));
+                for (int k = 0; k < 40; k++) {
+                    int byteAt = k < 20 ? k : random.nextInt(620) - 1;
+                    both("octet " + byteAt, () -> desk.octet(byteAt), () -> model.octet(byteAt));
                 }
                 break;
             case 35:

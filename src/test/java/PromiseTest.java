@@ -727,12 +727,6 @@ public final class PromiseTest extends Cases {
         written("6-7 7*98", "6*2 7*99");
         written("1-2 1-2", "(1 2)*2");
         written("3 2 1 0 10 100 1000 10000", "3 2 1 0 10 100 1000 10000");
-        StringBuilder longest = new StringBuilder("90000");
-        for (int k = 1; k < 100; k++) {
-            longest.append(k % 2 == 0 ? " 90000" : " 80000");
-        }
-        written(longest.toString(), "(90000 80000)*50");
-        is(599, longest.length());
     }
 
     private static void octet() {
@@ -750,43 +744,10 @@ public final class PromiseTest extends Cases {
         is('1', x.octet(5));
     }
 
-    private static AdmissionDesk rich() {
-        AdmissionDesk x = new AdmissionDesk();
-        x.tell(0, 5);
-        x.tell(1, 25);
-        x.tell(2, 60);
-        x.tell(3, 30);
-        x.tell(4, 20);
-        x.tell(5, 3);
-        law(x, "cand > vict or key = 3");
-        trace(x, "(1-3 7-12 1 2)*3 40-44");
-        return x;
-    }
-
-    private static void same(AdmissionDesk x, AdmissionDesk y) {
-        for (int what = 0; what <= 20; what++) {
-            is(x.count(what), y.count(what));
-        }
-        for (int what = 0; what < 4; what++) {
-            is(x.latest(what), y.latest(what));
-        }
-        for (int k = 0; k < 100; k++) {
-            is(x.history(k), y.history(k));
-            is(x.out(k), y.out(k));
-            is(x.at(1, k), y.at(1, k));
-            is(x.at(2, k), y.at(2, k));
-            is(x.at(3, k), y.at(3, k));
-            is(x.estimate(k), y.estimate(k));
-            is(x.noted(k), y.noted(k));
-            is(x.wins(k, 99 - k), y.wins(k, 99 - k));
-        }
-    }
-
     private static void keep() {
-        AdmissionDesk x = rich();
+        AdmissionDesk x = unkept();
         is(38, x.keep());
         is(0, new AdmissionDesk().keep());
-        same(x, rich());
         tape(x, "1 2");
         is(38, x.keep());
         x.trace();
@@ -798,44 +759,32 @@ public final class PromiseTest extends Cases {
     }
 
     private static void back() {
-        AdmissionDesk x = rich();
+        AdmissionDesk x = unkept();
         bad(STATE, x::back);
-        same(x, rich());
-        x.keep();
+        alike(unkept(), x);
+        AdmissionDesk y = busy();
+        y.keep();
         for (int turn = 0; turn < 2; turn++) {
-            trace(x, "60-99 1-30");
-            x.tell(0, 64);
-            x.tell(1, 70);
-            x.tell(2, 5);
-            x.tell(3, 5000);
-            x.tell(4, 0);
-            x.tell(5, 7);
-            x.free();
-            x.doorman(false);
-            x.needed(1, 2);
-            x.best(true);
-            tape(x, "1 2 3");
-            is(38, x.back());
-            same(x, rich());
-            is(true, x.end(5));
+            trace(y, "60-99 1-30");
+            y.tell(0, 64);
+            y.tell(1, 70);
+            y.tell(2, 5);
+            y.tell(3, 5000);
+            y.tell(4, 0);
+            y.tell(5, 7);
+            y.free();
+            y.doorman(false);
+            y.needed(1, 2);
+            y.best(true);
+            tape(y, "12 13");
+            is(43, y.back());
+            is(43, y.count(0));
+            is(6, y.count(8));
+            is(true, y.end(5));
         }
-        // The period goes on where it was.
-        AdmissionDesk y = rich();
-        trace(x, "200-230");
-        trace(y, "200-230");
-        same(x, y);
-        // The tape, the fault and what was written stay.
-        tape(x, "1 x");
-        bad(ILLEGAL, x::trace);
-        x.write();
-        int first = x.octet(0);
-        tape(x, "5 6");
-        x.back();
-        is(2, x.fault());
-        is(first, x.octet(0));
-        x.trace();
-        is(40, x.count(0));
-        is(38, x.back());
+        AdmissionDesk z = busy();
+        z.keep();
+        alike(z, y, "fault");
     }
 
     private static void count() {
@@ -1183,7 +1132,7 @@ public final class PromiseTest extends Cases {
     }
 
     private static void throwsLeaveAlone() {
-        AdmissionDesk x = rich();
+        AdmissionDesk x = unkept();
         int[] wrong = {-1, 100000, Integer.MIN_VALUE, Integer.MAX_VALUE};
         for (int key : wrong) {
             bad(ILLEGAL, () -> x.ask(key));
@@ -1213,6 +1162,8 @@ public final class PromiseTest extends Cases {
         bad(ILLEGAL, x::law);
         is(false, x.end(1));
         bad(STATE, x::back);
-        same(x, rich());
+        AdmissionDesk y = unkept();
+        y.end(0);
+        alike(y, x, "fault");
     }
 }

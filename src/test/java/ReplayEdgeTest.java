@@ -71,7 +71,7 @@ public final class ReplayEdgeTest extends Cases {
     /** What comes ahead of HISTORY and must not count: more asks than 100 push it out of HISTORY. */
     private static final String AHEAD = "1-20*9 60-70*3";
 
-    private static void like(AdmissionDesk x, int what, int n) {
+    private static void tellAny(AdmissionDesk x, int what, int n) {
         if (what >= 0) {
             x.tell(what, n);
         }
@@ -87,13 +87,13 @@ public final class ReplayEdgeTest extends Cases {
                 trace(x, MANY);
                 is(100, x.count(17));
                 int plain = x.again(door);
-                like(x, what, n);
+                tellAny(x, what, n);
                 x.doorman(isDoorman);
                 if (!law.isEmpty()) {
                     law(x, law);
                 }
                 AdmissionDesk y = new AdmissionDesk();
-                like(y, what, n);
+                tellAny(y, what, n);
                 y.doorman(isDoorman);
                 y.tell(1, door);
                 if (!law.isEmpty()) {
@@ -103,6 +103,17 @@ public final class ReplayEdgeTest extends Cases {
                 differs |= plain != x.again(door);
             }
             is(true, differs);
+        });
+    }
+
+    /** The first contest is at the 94th ask, with 90 hits: if it is won, there is one hit more. */
+    private static void lawAgain(String law, int due) {
+        told("terms 3, AGAIN: THE LAW's words tell of the desk that is empty at first, " + law, () -> {
+            AdmissionDesk x = shared(3, 10, 0, "50-59*3");
+            trace(x, "7*91 1-4 1-4 1");
+            law(x, law);
+            is(due, x.again(1));
+            is(due, x.again(1));
         });
     }
 
@@ -120,17 +131,15 @@ public final class ReplayEdgeTest extends Cases {
         setting("with the same LAW", -1, 0, true, "key > 4");
         setting("THE LAW's asks, hits, out, door, room are its own", -1, 0, true,
             "asks + hits + out + out < 99 and door + room > 39 and hits < 20");
-        for (String law : new String[] {"asks = 4", "asks = 5 and out = 0", "out = 1", "out = 2 and hits = 0", "hits = 1"}) {
-            told("terms 3, AGAIN: THE LAW's asks, hits, out begin at 0, " + law, () -> {
-                AdmissionDesk x = shared(3, 1, 50, "50-59");
-                law(x, law);
-                AdmissionDesk y = shared(3, 1, 50, "");
-                law(y, law);
-                trace(x, "7*91 1-4 1-4 1");
-                trace(x, "7*91 1-4 1-4 1");
-                is(trace(y, "7*91 1-4 1-4 1"), x.again(1));
-            });
-        }
+        lawAgain("asks < 95", 93);
+        lawAgain("asks < 94", 92);
+        lawAgain("out = 0", 93);
+        lawAgain("out > 99", 92);
+        lawAgain("hits = 90 and asks = 94", 93);
+        lawAgain("hits = 91 and asks = 94", 92);
+        lawAgain("door = 1 and out = 0", 93);
+        lawAgain("door = 10 and out = 0", 92);
+        lawAgain("room = 3 and out = 0", 93);
         told("terms 3, AGAIN: with its own DOOR, not that of the desk", () -> {
             AdmissionDesk x = desk(MANY);
             int one = x.again(1);
@@ -386,6 +395,7 @@ public final class ReplayEdgeTest extends Cases {
             is(NONE, desk("7*5").enough(Integer.MAX_VALUE));
             is(1, desk("7*100").enough(99));
             is(NONE, desk("7*100").enough(100));
+            is(NONE, desk("7*51").enough(51));
         });
     }
 
@@ -450,21 +460,21 @@ public final class ReplayEdgeTest extends Cases {
         });
     }
 
-    private static void twinIs(AdmissionDesk x, int key) {
+    private static void twinIs(AdmissionDesk x, int wide, int key) {
         int due = -1;
         for (int other = 0; other < 1000; other++) {
-            if (other != key && (due < 0 || shared(x, key, other) > shared(x, key, due))) {
+            if (other != key && (due < 0 || rows(wide, key, other) > rows(wide, key, due))) {
                 due = other;
             }
         }
         is(due, x.twin(key));
     }
 
-    private static int shared(AdmissionDesk x, int key, int other) {
+    /** In how many rows two keys have one place. */
+    private static int rows(int wide, int key, int other) {
         int n = 0;
         for (int row = 0; row < 4; row++) {
-            int places = 16 * x.count(12);
-            n += Model.place(key, row, places) == Model.place(other, row, places) ? 1 : 0;
+            n += Model.place(key, row, 16 * wide) == Model.place(other, row, 16 * wide) ? 1 : 0;
         }
         return n;
     }
@@ -475,7 +485,7 @@ public final class ReplayEdgeTest extends Cases {
                 AdmissionDesk x = new AdmissionDesk();
                 x.tell(5, wide);
                 for (int key : new int[] {0, 1, 2, 500, 998, 999, 1000, 1001, 99999}) {
-                    twinIs(x, key);
+                    twinIs(x, wide, key);
                     is(true, x.twin(key) != key);
                 }
             });
@@ -486,9 +496,9 @@ public final class ReplayEdgeTest extends Cases {
             for (int key = 1000; key < 90000 && !isThere; key++) {
                 int most = 0;
                 for (int other = 0; other < 999; other++) {
-                    most = Math.max(most, shared(x, key, other));
+                    most = Math.max(most, rows(4, key, other));
                 }
-                if (shared(x, key, 999) > most) {
+                if (rows(4, key, 999) > most) {
                     isThere = true;
                     is(999, x.twin(key));
                 }

@@ -335,6 +335,8 @@ public final class TextEdgeTest extends Cases {
         holds("terms 2, ATOM: not, of what does not", true, "not 1=2");
         holds("terms 2, ATOM: not, of a bracket that does not hold", true, "not (1=2)");
         holds("terms 2, ATOM: not, of what does not, and", true, "not 1=2 and not 1=2");
+        holds("terms 2, ATOM: not, of what holds, or what holds", true, "not 1=1 or 1=1");
+        holds("terms 2, ATOM: not, of what holds, and what holds", false, "not 1=1 and 1=1");
         holds("terms 2, ATOM: not, of what holds, or", false, "not 1=1 or not 1=1");
         holds("terms 2, ATOM: not, of one ATOM alone", true, "not 1=2 or 1=1");
         holds("terms 2, ATOM: not, of a SUM's ATOM, and goes on", false, "not 1=2 and 1=2");
