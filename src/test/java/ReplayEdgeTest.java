@@ -256,6 +256,11 @@ public final class ReplayEdgeTest extends Cases {
             }
         }
         bestIs("10, by one HIT alone", 10, 1, lawful(20, "1=2", "50-69 1 2 1"));
+        // The window is for one key by any of them: the law alone tells them apart.
+        for (int door = 0; door <= 90; door += 10) {
+            int one = Math.max(1, door);
+            bestIs(one + ", as the LAW tells", one, 1, lawful(2, "door = " + one, "1 2 3 2"));
+        }
         told("terms 3, BEST DOOR: 99 is none of them, nor 95", () -> {
             AdmissionDesk x = lawful(20, "1=2", "50-69 1-19 1-19");
             is(19, x.again(99));
